@@ -11,6 +11,7 @@ public final class ReadTest {
         days();
         room();
         fourEditions();
+        nothingStaysOfWrongTexts();
         Due.end();
     }
 
@@ -78,6 +79,12 @@ public final class ReadTest {
         wrong("A:1:1001x", 4);
         wrong("A:1:1000x", 8);
         wrong("A:1:1000", 8);
+        wrong("A:1:10001:", 4);
+        wrong("A:1:1:5000:", 6);
+        wrong("A:1:1:1::9990+0\n", 9);
+        wrong("A:1:1:1::0+990\n", 11);
+        wrong("A:1:1:1::\n", 9);
+        wrong("A:1:1:1::0\n", 10);
         wrong("A:1:4294967297:1::0+0\n", 4);
         wrong("A:1:99999999999999999999999999999999999999:", 4);
         wrong("A:1:1:", 6);
@@ -218,5 +225,17 @@ public final class ReadTest {
         Due.refuses("a fifth edition, empty", Due.NO_ROOM, () -> x.read(0));
         Due.refuses("a fifth edition, a wrong day", Due.BAD_ARGUMENT, () -> x.read(1001));
         Due.is("editions", 4, () -> x.count(0));
+    }
+
+    private static void nothingStaysOfWrongTexts() {
+        CarrierText x = new CarrierText();
+        Due.is("a wrong text", -43, () -> Due.readText(x, A + "/0001-0009:1\n*A:08-17\n/0010-0", 0));
+        Due.is("an empty text behind it", 1, () -> x.read(0));
+        Due.is("its services", 0, () -> x.told(1, 1));
+        Due.is("its ranges", 0, () -> x.told(1, 2));
+        Due.is("its hours", 0, () -> x.told(1, 3));
+        Due.is("its zone of a code", 0, () -> x.zone(1));
+        Due.is("its services that fit", 0, () -> x.fits(1, 1, 1, 0));
+        Due.refuses("its price", Due.NO_ELEMENT, () -> x.price('A', 1));
     }
 }
