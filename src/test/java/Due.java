@@ -9,15 +9,32 @@ final class Due {
 
     private static int asked = 0;
     private static int wrong = 0;
+    private static String sentence = "";
+    private static int askedBefore = 0;
 
     private Due() {
+    }
+
+    /** The document's words that the answers from here on are about; a sentence without answers is a fault. */
+    static void sentence(String words) {
+        endSentence();
+        sentence = words;
+        askedBefore = asked;
+    }
+
+    private static void endSentence() {
+        if (!sentence.isEmpty() && asked == askedBefore) {
+            wrong++;
+            System.out.println("[" + sentence + "] has no test");
+        }
     }
 
     static void is(String call, String want, String got) {
         asked++;
         if (!want.equals(got)) {
             wrong++;
-            System.out.println(call + " answered " + got + ", due is " + want);
+            String about = sentence.isEmpty() ? "" : "[" + sentence + "] ";
+            System.out.println(about + call + " answered " + got + ", due is " + want);
         }
     }
 
@@ -110,6 +127,7 @@ final class Due {
     }
 
     static void end() {
+        endSentence();
         System.out.println(asked + " answers asked, " + wrong + " not as due");
         if (wrong != 0 || asked == 0) {
             System.exit(1);
