@@ -77,6 +77,9 @@ public final class FaceTest {
         for (Class<?> inside : CarrierText.class.getDeclaredClasses()) {
             Due.is("class " + inside.getSimpleName() + " is static", "true",
                     "" + Modifier.isStatic(inside.getModifiers()));
+            for (Method m : inside.getDeclaredMethods()) {
+                Due.is("inner " + m.getName() + " bears a public name", "false", "" + face.contains(m.getName()));
+            }
         }
     }
 
